@@ -197,23 +197,35 @@ public final class StageCycles {
     /** The words, by number. */
     private static final class Program {
         private final int[] kinds = new int[MOST_WORDS];
-        private final int[] targets = new int[MOST_WORDS];
+        private final int[] writes = new int[MOST_WORDS];
         private final int[] firsts = new int[MOST_WORDS];
         private final int[] seconds = new int[MOST_WORDS];
         private final int[] numbers = new int[MOST_WORDS];
         private int words;
 
         int append(int kind, int d, int a, int b, int n) {
-            if (!isBelow(words, MOST_WORDS)) {
+            if (words < 0 || words >= MOST_WORDS) {
                 return NONE;
             }
             kinds[words] = kind;
-            targets[words] = d;
-            firsts[words] = a;
-            seconds[words] = b;
+            writes[words] = hasTarget(kind) ? d : NONE;
+            firsts[words] = readsFirst(kind) ? a : NONE;
+            seconds[words] = readsSecond(kind) ? b : NONE;
             numbers[words] = n;
             words++;
             return words - 1;
+        }
+
+        private static boolean hasTarget(int kind) {
+            return kind == ADD || kind == LOAD || kind == MUL || kind == SET;
+        }
+
+        private static boolean readsFirst(int kind) {
+            return kind == LOAD || kind == BRANCH || readsSecond(kind);
+        }
+
+        private static boolean readsSecond(int kind) {
+            return kind == ADD || kind == STORE || kind == MUL;
         }
 
         void forget() {
@@ -225,39 +237,26 @@ public final class StageCycles {
         }
 
         int kindOf(int word) {
-            return isBelow(word, MOST_WORDS) ? kinds[word] : NONE;
+            return word >= 0 && word < MOST_WORDS ? kinds[word] : NONE;
         }
 
-        int target(int word) {
-            return isBelow(word, MOST_WORDS) ? targets[word] : NONE;
+        /** The register that a word writes, or NONE. */
+        int written(int word) {
+            return word >= 0 && word < MOST_WORDS ? writes[word] : NONE;
         }
 
-        int first(int word) {
-            return isBelow(word, MOST_WORDS) ? firsts[word] : NONE;
+        /** Its register a if it reads that, or NONE. */
+        int firstRead(int word) {
+            return word >= 0 && word < MOST_WORDS ? firsts[word] : NONE;
         }
 
-        int second(int word) {
-            return isBelow(word, MOST_WORDS) ? seconds[word] : NONE;
+        /** Its register b if it reads that, or NONE. */
+        int secondRead(int word) {
+            return word >= 0 && word < MOST_WORDS ? seconds[word] : NONE;
         }
 
         int number(int word) {
-            return isBelow(word, MOST_WORDS) ? numbers[word] : 0;
-        }
-
-        boolean readsFirst(int word) {
-            int kind = kindOf(word);
-            return kind == LOAD || kind == BRANCH || readsSecond(word);
-        }
-
-        boolean readsSecond(int word) {
-            int kind = kindOf(word);
-            return kind == ADD || kind == STORE || kind == MUL;
-        }
-
-        boolean writes(int word, int register) {
-            int kind = kindOf(word);
-            boolean any = kind == ADD || kind == LOAD || kind == MUL || kind == SET;
-            return any && target(word) == register;
+            return word >= 0 && word < MOST_WORDS ? numbers[word] : 0;
         }
 
         int behind(int word) {
@@ -286,7 +285,7 @@ public final class StageCycles {
         }
 
         int valueOf(int register) {
-            return isBelow(register, REGISTERS) ? registers[register] : 0;
+            return register >= 0 && register < REGISTERS ? registers[register] : 0;
         }
 
         int valueAt(int number) {
@@ -294,15 +293,15 @@ public final class StageCycles {
         }
 
         boolean goes(int word) {
-            return program.kindOf(word) == BRANCH && valueOf(program.first(word)) != 0;
+            return program.kindOf(word) == BRANCH && valueOf(program.firstRead(word)) != 0;
         }
 
         /** Does a word: what it writes, 0 without. */
         int perform(int word) {
-            int a = valueOf(program.first(word));
-            int b = valueOf(program.second(word));
+            int a = valueOf(program.firstRead(word));
+            int b = valueOf(program.secondRead(word));
             int n = program.number(word);
-            int d = program.target(word);
+            int d = program.written(word);
             switch (program.kindOf(word)) {
                 case ADD: return write(d, a + b + n);
                 case LOAD: return write(d, valueAt(a));
@@ -314,7 +313,7 @@ public final class StageCycles {
         }
 
         private int write(int register, int value) {
-            if (isBelow(register, REGISTERS)) {
+            if (register >= 0 && register < REGISTERS) {
                 registers[register] = value;
             }
             return value;
@@ -336,29 +335,21 @@ public final class StageCycles {
             Arrays.fill(words, NONE);
         }
 
-        void beginAnew() {
-            squashBelow(MOST_STAGES);
-        }
-
         int wordIn(int s) {
-            return isBelow(s, MOST_STAGES) ? words[s] : NONE;
-        }
-
-        boolean isEmpty(int s) {
-            return wordIn(s) == NONE;
+            return s >= 0 && s < MOST_STAGES ? words[s] : NONE;
         }
 
         boolean isOnTheWay(int s) {
-            return isBelow(s, MOST_STAGES) && onTheWay[s];
+            return s >= 0 && s < MOST_STAGES && onTheWay[s];
         }
 
         /** Whether a BRANCH on the way that goes is in a stage. */
         boolean isGoing(int s) {
-            return isBelow(s, MOST_STAGES) && going[s];
+            return s >= 0 && s < MOST_STAGES && going[s];
         }
 
         void put(int s, int word, boolean way, boolean goes) {
-            if (isBelow(s, MOST_STAGES)) {
+            if (s >= 0 && s < MOST_STAGES) {
                 words[s] = word;
                 onTheWay[s] = way;
                 going[s] = goes;
@@ -378,12 +369,16 @@ public final class StageCycles {
         int squashBelow(int s) {
             int squashed = 0;
             for (int i = 0; i < MOST_STAGES && i < s; i++) {
-                if (!isEmpty(i)) {
+                if (words[i] != NONE) {
                     squashed++;
                 }
-                empty(i);
+                put(i, NONE, false, false);
             }
             return squashed;
+        }
+
+        void beginAnew() {
+            squashBelow(MOST_STAGES);
         }
     }
 
@@ -449,13 +444,13 @@ public final class StageCycles {
         }
 
         void addCause(int cause) {
-            if (isBelow(cause, CAUSES)) {
+            if (cause >= 0 && cause < CAUSES) {
                 causes[cause]++;
             }
         }
 
         int cyclesWith(int cause) {
-            return isBelow(cause, CAUSES) ? causes[cause] : 0;
+            return cause >= 0 && cause < CAUSES ? causes[cause] : 0;
         }
     }
 
@@ -556,29 +551,19 @@ public final class StageCycles {
         private int goOn() {
             int cause = ANY_OTHER;
             for (int s = shape.last() - 1; s >= 0; s--) {
-                if (slots.isEmpty(s)) {
-                    continue;
-                }
-                int held = s == shape.reading ? work(slots.wordIn(s)) : ANY_OTHER;
+                int word = slots.wordIn(s);
+                int held = word != NONE && s == shape.reading ? work(word) : ANY_OTHER;
                 if (held != ANY_OTHER) {
                     cause = held;
-                } else if (slots.isEmpty(s + 1)) {
-                    goOnFrom(s);
+                } else if (word != NONE && slots.wordIn(s + 1) == NONE) {
+                    slots.moveOnFrom(s);
+                    worked = s + 1 == shape.reading ? 0 : worked;
+                    if (s == shape.behindBranch && slots.isGoing(s + 1)) {
+                        takeBranch(s, word);
+                    }
                 }
             }
             return cause;
-        }
-
-        private void goOnFrom(int s) {
-            int word = slots.wordIn(s);
-            boolean goes = slots.isGoing(s);
-            slots.moveOnFrom(s);
-            if (s + 1 == shape.reading) {
-                worked = 0;
-            }
-            if (goes && s == shape.behindBranch) {
-                takeBranch(s, word);
-            }
         }
 
         /** A cycle of the word in the reading stage: what holds it there, ANY_OTHER if nothing does. */
@@ -594,15 +579,17 @@ public final class StageCycles {
         }
 
         private boolean isReady(int word) {
-            return (!program.readsFirst(word) || isThere(program.first(word)))
-                    && (!program.readsSecond(word) || isThere(program.second(word)));
+            return isThere(program.firstRead(word)) && isThere(program.secondRead(word));
         }
 
         private boolean isThere(int register) {
+            if (register == NONE) {
+                return true;
+            }
             for (int s = shape.reading + 1; s < shape.stages; s++) {
-                int word = slots.wordIn(s);
-                if (word != NONE && program.writes(word, register)) {
-                    return forward && s > shape.behindWhichReady(program.kindOf(word));
+                int writer = slots.wordIn(s);
+                if (program.written(writer) == register) {
+                    return forward && s > shape.behindWhichReady(program.kindOf(writer));
                 }
             }
             return true;
@@ -610,7 +597,7 @@ public final class StageCycles {
 
         /** Step 3. */
         private void fetch() {
-            if (redirected || stopFetched || !slots.isEmpty(0)) {
+            if (redirected || stopFetched || slots.wordIn(0) != NONE) {
                 return;
             }
             int word = next;

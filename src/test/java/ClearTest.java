@@ -7,6 +7,7 @@ public final class ClearTest {
         everythingBeginsAnew();
         settingsStay();
         clearInTheMidst();
+        oldValuesAreGone();
         CHECK.end();
     }
 
@@ -100,5 +101,29 @@ public final class ClearTest {
             Cores.dueCycles(CHECK, "cleared after " + cycles, x, "4: 0 . . . .", "4: 1 0 . . .", "4: 2 1 0 . .",
                     "2: 2 1 . 0 .", "3: 2 1 . . 0", "0: 2 1 . . .", "3: 2 1 . . .", "4: . 2 1 . .");
         }
+    }
+
+    /** Both branches of the second program would go with the first one's register 1 or memory at 1. */
+    private static void oldValuesAreGone() {
+        StageCycles x = Cores.core(4, 1, 1, 1, 2, 1);
+        x.set(true, 3);
+        Cores.set(x, 1, 1);
+        Cores.store(x, 1, 1);
+        Cores.fault(x);
+        Cores.stop(x);
+        x.run(100);
+        CHECK.due("faults before clear", x.count(4), 1);
+        x.clear();
+        CHECK.due("faults after clear", x.count(4), 0);
+        Cores.branch(x, 1, 0);
+        Cores.set(x, 3, 1);
+        Cores.load(x, 2, 3);
+        Cores.branch(x, 2, 0);
+        Cores.stop(x);
+        CHECK.due("run after clear", x.run(100), 9);
+        CHECK.due("journal after clear", Cores.journal(x), "0@5=0 1@6=1 2@7=0 3@8=0 4@9=0");
+        CHECK.due("went after clear", x.count(13), 0);
+        CHECK.due("squashed after clear", x.count(3), 0);
+        CHECK.due("STOP left again", x.count(5), 1);
     }
 }

@@ -15,6 +15,7 @@ public final class RunTest {
         newestWriterCounts();
         whatIsRead();
         mulWorks();
+        mulWorksWhileOthersGoOn();
         branchKnownInReading();
         branchKnownMidway();
         branchKnownAtTheEnd();
@@ -202,6 +203,18 @@ public final class RunTest {
             CHECK.due("cycles with M " + m, y.run(100), 4 + m);
             CHECK.due("working cycles with M " + m, y.cause(3), m - 1);
         }
+    }
+
+    private static void mulWorksWhileOthersGoOn() {
+        StageCycles x = Cores.core(7, 1, 1, 1, 1, 4);
+        Cores.set(x, 1, 3);
+        Cores.set(x, 2, 5);
+        Cores.mul(x, 3, 1, 2);
+        Cores.mul(x, 3, 3, 3);
+        Cores.dueCycles(CHECK, "M 4", x, "4: 0 . . . . . .", "4: 1 0 . . . . .", "4: 2 1 0 . . . .",
+                "4: 3 2 1 0 . . .", "3: 3 2 . 1 0 . .", "3: 3 2 . . 1 0 .", "3: 3 2 . . . 1 0", "0: 0 3 2 . . . 1",
+                "0: 0 3 . 2 . . .", "3: 0 3 . . 2 . .", "3: 0 3 . . . 2 .", "4: 1 0 3 . . . 2", "0: 2 1 0 3 . . .");
+        CHECK.due("M 4", Cores.journal(x), "0@8=3 1@9=5 2@13=15");
     }
 
     private static void branchKnownInReading() {
