@@ -6,21 +6,31 @@ final class Check {
 
     private int asked;
     private int wrong;
+    private String sentence = "";
+
+    /** A test of one sentence of the document; whatever goes wrong in it, the tests behind it are still run. */
+    void sentence(String words, Runnable test) {
+        int before = asked;
+        sentence = "'" + words + "': ";
+        try {
+            test.run();
+        } catch (RuntimeException e) {
+            count(false, "the test was ended by " + e);
+        }
+        count(asked > before, "nothing was asked");
+        sentence = "";
+    }
 
     void due(String what, long got, long want) {
-        asked++;
-        if (got != want) {
-            wrong++;
-            System.out.println(what + " answered " + got + ", due is " + want);
-        }
+        count(got == want, what + " answered " + got + ", due is " + want);
+    }
+
+    void due(String what, boolean got, boolean want) {
+        count(got == want, what + " answered " + got + ", due is " + want);
     }
 
     void due(String what, String got, String want) {
-        asked++;
-        if (!got.equals(want)) {
-            wrong++;
-            System.out.println(what + " answered " + got + ", due is " + want);
-        }
+        count(got.equals(want), what + " answered " + got + ", due is " + want);
     }
 
     /** The very class is due, not one below it: a machine's exception is often below a promised one. */
@@ -32,6 +42,14 @@ final class Check {
             got = e.getClass().getName();
         }
         due(what, got, want.getName());
+    }
+
+    private void count(boolean fine, String text) {
+        asked++;
+        if (!fine) {
+            wrong++;
+            System.out.println(sentence + text);
+        }
     }
 
     boolean isClean() {

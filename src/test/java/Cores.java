@@ -40,10 +40,22 @@ final class Cores {
         return x.word(7, d, 0, 0, n);
     }
 
+    /** A word that reads nothing, and sets register 7 to 0. */
+    static int fill(StageCycles x) {
+        return set(x, 7, 0);
+    }
+
+    static void fill(StageCycles x, int words) {
+        for (int w = 0; w < words; w++) {
+            fill(x);
+        }
+    }
+
     /** The words in the stages from 0 on: '.' an empty one, '*' behind one that is astray. */
     static String picture(StageCycles x) {
         StringBuilder text = new StringBuilder();
-        for (int s = 0; s < x.count(6); s++) {
+        int stages = x.count(6);
+        for (int s = 0; s < stages; s++) {
             int word = x.stage(s, 0);
             text.append(s == 0 ? "" : " ").append(word == StageCycles.NONE ? "." : "" + word);
             text.append(word != StageCycles.NONE && x.stage(s, 1) == 0 ? "*" : "");
@@ -54,7 +66,8 @@ final class Cores {
     /** The committed words as word@cycle=written. */
     static String journal(StageCycles x) {
         StringBuilder text = new StringBuilder();
-        for (int k = 0; k < Math.min(400, x.count(1)); k++) {
+        int kept = Math.min(400, x.count(1));
+        for (int k = 0; k < kept; k++) {
             text.append(k == 0 ? "" : " ").append(x.committed(k, 0)).append('@').append(x.committed(k, 1));
             text.append('=').append(x.committed(k, 2));
         }
@@ -67,6 +80,33 @@ final class Cores {
             text.append(c == 0 ? "" : " ").append(x.cause(c));
         }
         return text.toString();
+    }
+
+    static String counts(StageCycles x) {
+        StringBuilder text = new StringBuilder();
+        for (int what = 0; what < 14; what++) {
+            text.append(what == 0 ? "" : " ").append(x.count(what));
+        }
+        return text.toString();
+    }
+
+    /** All that an object shows: some 120 calls, and three for each committed word. */
+    static String all(StageCycles x) {
+        StringBuilder text = new StringBuilder();
+        text.append(counts(x)).append(" / ").append(causes(x)).append(" / ").append(picture(x)).append(" / ");
+        for (int r = 0; r < 8; r++) {
+            text.append(x.register(r)).append(' ');
+        }
+        text.append("/ ");
+        for (int at = 0; at < 64; at++) {
+            text.append(x.memory(at)).append(' ');
+        }
+        return text.append("/ ").append(journal(x)).toString();
+    }
+
+    /** An empty core's picture. */
+    static String empty(int stages) {
+        return ". ".repeat(stages).trim();
     }
 
     /** Cycle by cycle: the cause's number, a colon, and the picture after it. */

@@ -3,29 +3,31 @@ public final class MemoryTest {
     private static final Check CHECK = new Check();
 
     public static void main(String[] args) {
-        wrongCalls();
-        seenOnceCommitted();
-        stored(0, 0);
-        stored(63, 63);
-        stored(64, 0);
-        stored(-1, 63);
-        stored(-64, 0);
-        stored(-65, 63);
-        stored(130, 2);
-        stored(Integer.MAX_VALUE, 63);
-        stored(Integer.MIN_VALUE, 0);
+        CHECK.sentence("A place of memory (0 .. 63)", MemoryTest::allPlaces);
+        CHECK.sentence("as committed words have it", MemoryTest::asCommitted);
+        CHECK.sentence("IndexOutOfBoundsException, when there is none", MemoryTest::none);
         CHECK.end();
     }
 
-    private static void wrongCalls() {
+    /** A loop that stores at 1, 2, .. 63, 64 and 65, one behind the other. */
+    private static void allPlaces() {
         StageCycles x = Cores.core(3, 1, 1, 1, 1, 1);
-        for (int at : new int[] {-1, 64, 65, Integer.MIN_VALUE, Integer.MAX_VALUE}) {
-            CHECK.dueThrow("memory(" + at + ")", IndexOutOfBoundsException.class, () -> x.memory(at));
+        Cores.add(x, 1, 1, 0, 1);
+        Cores.store(x, 1, 1);
+        x.run(2 * 63 + 3);
+        for (int at = 0; at < 64; at++) {
+            CHECK.due("memory(" + at + ")", x.memory(at), at);
         }
+        x.run(2);
+        CHECK.due("64 is stored at 0", x.memory(0), 64);
+        CHECK.due("memory(1)", x.memory(1), 1);
+        CHECK.due("memory(63)", x.memory(63), 63);
+        x.run(2);
+        CHECK.due("65 is stored at 1", x.memory(1), 65);
     }
 
     /** A STORE is seen once it is committed; the one behind the branch is astray, and never seen. */
-    private static void seenOnceCommitted() {
+    private static void asCommitted() {
         StageCycles x = Cores.core(4, 1, 1, 1, 3, 1);
         Cores.set(x, 1, 9);
         Cores.store(x, 1, 1);
@@ -42,20 +44,19 @@ public final class MemoryTest {
         CHECK.due("STOP left", x.count(5), 1);
     }
 
-    private static void stored(int number, int place) {
+    private static void none() {
         StageCycles x = Cores.core(3, 1, 1, 1, 1, 1);
-        Cores.set(x, 1, number);
-        Cores.set(x, 2, 12345);
-        Cores.store(x, 1, 2);
-        Cores.load(x, 3, 1);
-        Cores.set(x, 4, place);
-        Cores.load(x, 5, 4);
-        Cores.stop(x);
-        x.run(20);
-        for (int at = 0; at < 64; at++) {
-            CHECK.due("stored at " + number + ", memory(" + at + ")", x.memory(at), at == place ? 12345 : 0);
+        dueNone(x, "a new object");
+        Cores.fill(x, 2);
+        x.run(9);
+        dueNone(x, "behind cycles");
+        CHECK.due("memory(0)", x.memory(0), 0);
+        CHECK.due("memory(63)", x.memory(63), 0);
+    }
+
+    private static void dueNone(StageCycles x, String state) {
+        for (int at : new int[] {-1, -64, 64, 65, 128, Integer.MIN_VALUE, Integer.MAX_VALUE}) {
+            CHECK.dueThrow(state + ", memory(" + at + ")", IndexOutOfBoundsException.class, () -> x.memory(at));
         }
-        CHECK.due("loaded from " + number, x.register(3), 12345);
-        CHECK.due("loaded from " + place, x.register(5), 12345);
     }
 }
