@@ -9,10 +9,10 @@ public final class TermsCoreTest {
     public static void main(String[] args) {
         CHECK.sentence("THE CORE has N STAGES, 0 .. N - 1", TermsCoreTest::stages);
         CHECK.sentence("a READING stage R (1 .. N - 2)", () -> allShapes(TermsCoreTest::waitsInReading));
-        CHECK.sentence("results of ADD .. are there behind stage FA", () -> allShapes((n, r, s) -> there(0, n, r, s)));
-        CHECK.sentence("results of .. MUL .. are there behind stage FA", () -> allShapes((n, r, s) -> there(3, n, r, s)));
-        CHECK.sentence("results of .. SET are there behind stage FA", () -> allShapes((n, r, s) -> there(7, n, r, s)));
-        CHECK.sentence("of LOAD behind FL (R .. N - 1 each)", () -> allShapes((n, r, s) -> there(1, n, r, s)));
+        CHECK.sentence("results of ADD .. are there behind stage FA", () -> allShapesOfWriter(0));
+        CHECK.sentence("results of .. MUL .. are there behind stage FA", () -> allShapesOfWriter(3));
+        CHECK.sentence("results of .. SET are there behind stage FA", () -> allShapesOfWriter(7));
+        CHECK.sentence("of LOAD behind FL (R .. N - 1 each)", () -> allShapesOfWriter(1));
         CHECK.sentence("branches are known behind stage B (R .. N - 1)", () -> allShapes(TermsCoreTest::known));
         CHECK.sentence("MUL works M cycles in R (1 .. 8)", TermsCoreTest::mulWorks);
         CHECK.sentence("others 1", TermsCoreTest::othersWorkOneCycle);
@@ -30,6 +30,10 @@ public final class TermsCoreTest {
                 }
             }
         }
+    }
+
+    private static void allShapesOfWriter(int kind) {
+        allShapes((n, r, stage) -> there(kind, n, r, stage));
     }
 
     private static void stages() {
